@@ -428,6 +428,14 @@ public final class SpaceLinks {
             count--;
             return c;
         }
+
+        /** It loses what is ahead to its first MARK, with that. */
+        void dropPacket() {
+            int dropped = 0;
+            for (int most = count; most > 0 && dropped < END_MARK; most--) {
+                dropped = take();
+            }
+        }
     }
 
     /** A SOCKET: one side of a link. */
@@ -776,17 +784,6 @@ public final class SpaceLinks {
             return kept[(received - 1 - i) % KEPT];
         }
 
-        /** The QUEUE loses the rest of a packet that was broken off. */
-        void spillFirst() {
-            spilled++;
-            for (int k = 0; k < QUEUE_ROOM; k++) {
-                int c = queue.take();
-                if (c == NONE || c >= END_MARK) {
-                    return;
-                }
-            }
-        }
-
         int tell(int what) {
             switch (what) {
                 case 0: return queue.count;
@@ -945,20 +942,16 @@ public final class SpaceLinks {
                 side.buffer.add(ERROR_MARK);
                 side.cameOpen = false;
             }
-            if (s < FIRST_END) {
-                spillSource(s);
-            } else if (side.sentOpen) {
-                ends[s - FIRST_END].spillFirst();
+            if (s >= FIRST_END) {
+                if (side.sentOpen) {
+                    ends[s - FIRST_END].spilled++;
+                    ends[s - FIRST_END].queue.dropPacket();
+                }
+            } else if (inputs[s].from != NONE) {
+                inputs[baseOf(s) + inputs[s].from].beginSpill(false);
+                inputs[s].from = NONE;
             }
             side.sentOpen = false;
-        }
-
-        private void spillSource(int s) {
-            int source = inputs[s].from;
-            if (source != NONE) {
-                inputs[s].from = NONE;
-                inputs[baseOf(s) + source].beginSpill(false);
-            }
         }
 
         void step() {
@@ -1107,7 +1100,13 @@ public final class SpaceLinks {
             boolean waits = false;
             for (int round = 0; round < ROUNDS; round++) {
                 if (input.mode == SPILLING) {
-                    spill(router, s);
+                    int mark = spill(s);
+                    if (mark != NONE && input.ordering) {
+                        answer(router, s, mark == END_MARK && obeys(router, s));
+                    }
+                    if (mark != NONE) {
+                        input.beFree();
+                    }
                 }
                 if (waits || input.mode != FREE || sides[s].buffer.count == 0) {
                     break;
@@ -1169,28 +1168,25 @@ public final class SpaceLinks {
             return NONE;
         }
 
-        /** BUFFER of an INPUT loses what is ahead to the first MARK; an ORDER is done as that goes. */
-        private void spill(Router router, int s) {
-            Input input = inputs[s];
+        /** BUFFER of an INPUT loses what is ahead to the first MARK: that, or NONE if there was none. */
+        private int spill(int s) {
             Row buffer = sides[s].buffer;
             int c = buffer.take();
-            for (int k = 0; k < Side.BUFFER_ROOM && c >= 0 && c < END_MARK; k++) {
-                input.keep(c);
+            for (int most = buffer.count; most >= 0 && c >= 0 && c < END_MARK; most--) {
+                inputs[s].keep(c);
                 c = buffer.take();
             }
-            if (c < END_MARK) {
-                return;
+            return c;
+        }
+
+        private void answer(Router router, int s, boolean isDone) {
+            if (isDone) {
+                router.written++;
+                log.add(tick, LOG_WRITTEN, s);
+            } else {
+                router.refused++;
+                log.add(tick, LOG_REFUSED, s);
             }
-            if (input.ordering) {
-                if (c == END_MARK && obeys(router, s)) {
-                    router.written++;
-                    log.add(tick, LOG_WRITTEN, s);
-                } else {
-                    router.refused++;
-                    log.add(tick, LOG_REFUSED, s);
-                }
-            }
-            input.beFree();
         }
 
         /** Whether the ORDER that came by an INPUT could be done, and was. */
@@ -1558,29 +1554,25 @@ public final class SpaceLinks {
         private int readSocket(World world, int before) {
             skipBlanks();
             int start = reading;
-            int s = takesWord("e") ? readEnd() : readPort();
-            if (!isSocket(s)) {
+            int base = FIRST_END;
+            boolean isEnd = takesWord("e");
+            if (!isEnd) {
+                int router = readNumber(0, ROUTERS - 1);
+                if (router == NONE || !takesSign('.')) {
+                    return NONE;
+                }
+                base = router * SPAN;
+            }
+            int number = isEnd ? readNumber(0, ENDS - 1) : readNumber(1, PORTS);
+            if (number == NONE) {
                 return NONE;
             }
+            int s = base + number;
             if (s == before || world.sides[s].other != NONE || partners[s] != NONE) {
                 fails(CABLE_TWICE, start);
                 return NONE;
             }
             return s;
-        }
-
-        private int readEnd() {
-            int end = readNumber(0, ENDS - 1);
-            return end == NONE ? NONE : FIRST_END + end;
-        }
-
-        private int readPort() {
-            int router = readNumber(0, ROUTERS - 1);
-            if (router == NONE || !takesSign('.')) {
-                return NONE;
-            }
-            int port = readNumber(1, PORTS);
-            return port == NONE ? NONE : router * SPAN + port;
         }
 
         private boolean readTable(World world) {
