@@ -563,7 +563,6 @@ public final class SpaceLinks {
         void beginSpill(boolean isOrder) {
             mode = SPILLING;
             to = NONE;
-            stuck = 0;
             ordering = isOrder;
             ordered = 0;
         }
@@ -571,7 +570,6 @@ public final class SpaceLinks {
         void beFree() {
             mode = FREE;
             to = NONE;
-            stuck = 0;
             ordering = false;
         }
 
@@ -975,6 +973,16 @@ public final class SpaceLinks {
             for (int s = 0; s < SOCKETS; s++) {
                 transmit(s);
             }
+            unstickSpilling();
+        }
+
+        /** An ORDER may have made an INPUT SPILLING behind its place in the round: it is not STUCK in this TICK. */
+        private void unstickSpilling() {
+            for (int s = 0; s < FIRST_END; s++) {
+                if (inputs[s].mode == SPILLING) {
+                    inputs[s].stuck = 0;
+                }
+            }
         }
 
         private void hear(int s) {
@@ -1227,6 +1235,7 @@ public final class SpaceLinks {
                 sides[out].owes = sides[out].sentOpen;
             }
             input.beginSpill(false);
+            input.stuck = 0;
         }
 
         private void takeIn(int e) {
@@ -1444,7 +1453,7 @@ public final class SpaceLinks {
         }
 
         static boolean comesAgain(World world, int router, int address) {
-            int reached = 1 << router | routersBehind(world, router, address);
+            int reached = routersBehind(world, router, address);
             for (int r = 0; r < ROUTERS; r++) {
                 if ((reached >> r & 1) == 1 && (routersBehind(world, r, address) >> r & 1) == 1) {
                     return true;

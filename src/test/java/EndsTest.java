@@ -5,6 +5,7 @@ public final class EndsTest {
     public static void main(String[] args) {
         answers();
         comesIn();
+        everyEnd();
         keepsSix();
         keepsForty();
         CHECK.finish();
@@ -53,6 +54,22 @@ public final class EndsTest {
         CHECK.due("RECEIVED", 1, x.endOf(1, 1));
         CHECK.due("WHOLE ones", 1, x.endOf(1, 2));
         CHECK.due("the other END", 0, x.endOf(0, 1));
+    }
+
+    private static void everyEnd() {
+        SpaceLinks x = Check.running("cable e0 0.1;cable e1 0.2;cable e2 0.3;cable e3 0.4;cable e4 0.5;cable e5 0.6;cable e6 0.7;");
+        for (int e = 0; e < 7; e++) {
+            int to = (e + 3) % 7;
+            Check.send(x, e, to + 1, 50 + e);
+        }
+        x.tick(5);
+        for (int e = 0; e < 7; e++) {
+            CHECK.due("RECEIVED by " + e, 1, x.endOf(e, 2));
+            CHECK.due("byte of " + e, 50 + (e + 4) % 7, x.byteOf(e, 0, 0));
+            CHECK.due("TICK of " + e, 15, x.packet(e, 0, 2));
+        }
+        CHECK.due("all RECEIVED", 7, x.look(5));
+        CHECK.due("all WHOLE", 7, x.look(6));
     }
 
     private static void keepsSix() {

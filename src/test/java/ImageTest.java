@@ -1,5 +1,6 @@
 import java.util.ArrayList;
 import java.util.List;
+import java.util.Random;
 
 /** Promise 32: THE IMAGE, from which all goes on. */
 public final class ImageTest {
@@ -10,6 +11,7 @@ public final class ImageTest {
         goesBack();
         notTheTape();
         goesOnAlike();
+        afterAnyCalls();
         CHECK.finish();
     }
 
@@ -84,22 +86,39 @@ public final class ImageTest {
         Check.send(x, 1, 0, 1, 40, 8, 1);
         x.tick(13);
         x.time(1);
+        isAlikeEachTime(x, "told");
+    }
+
+    /** The same from where calls by chance have led. */
+    private static void afterAnyCalls() {
+        for (int seed = 1; seed <= 60; seed++) {
+            SpaceLinks x = new SpaceLinks();
+            Random random = new Random(seed);
+            Calls.lay(x, random);
+            for (int call = 0; call < 200; call++) {
+                Calls.one(x, random);
+            }
+            isAlikeEachTime(x, "chance " + seed);
+        }
+    }
+
+    private static void isAlikeEachTime(SpaceLinks x, String name) {
         x.image(true);
         List<Integer> first = asked(x);
         for (int again = 0; again < 2; again++) {
             x.image(false);
             List<Integer> next = asked(x);
             for (int k = 0; k < first.size(); k++) {
-                CHECK.due("answer " + k, first.get(k), next.get(k));
+                CHECK.due(name + ": answer " + k, first.get(k), next.get(k));
             }
         }
     }
 
     private static List<Integer> asked(SpaceLinks x) {
         List<Integer> answers = new ArrayList<>();
-        for (int t = 0; t < 40; t++) {
+        for (int t = 0; t < 20; t++) {
             All.ask(x, answers);
-            x.tick(2);
+            x.tick(t % 3 + 1);
         }
         return answers;
     }

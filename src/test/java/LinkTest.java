@@ -9,6 +9,8 @@ public final class LinkTest {
         credit();
         holdBack();
         fallWithPacket();
+        fallsAgain();
+        silentAsItConnects();
         noCredit();
         byteBeforeCredit();
         answersOfSocket();
@@ -160,6 +162,33 @@ public final class LinkTest {
         x.tick(1);
         CHECK.due("behind a MARK: no ERROR MARK", 0, x.socket(33, 7));
         CHECK.due("RECEIVED", 2, x.endOf(1, 1));
+    }
+
+    /** Each packet is broken off once, though its link FALLS more than once. */
+    private static void fallsAgain() {
+        SpaceLinks x = Check.running("cable e0 e1;");
+        Check.send(x, 0, 1, 2, 3, 4, 5);
+        Check.send(x, 0, 9);
+        x.hold(1, true);
+        x.tick(3);
+        x.broken(32, true);
+        x.tick(40);
+        CHECK.due("FELL", 4, x.socket(32, 10));
+        CHECK.due("SPILLED", 1, x.endOf(0, 8));
+        CHECK.due("QUEUE", 2, x.endOf(0, 0));
+        CHECK.due("BUFFER", 3, x.socket(33, 7));
+        CHECK.due("the last one", 257, x.buffer(33, 2));
+    }
+
+    private static void silentAsItConnects() {
+        SpaceLinks x = new SpaceLinks();
+        x.plug(32, 33);
+        x.tick(7);
+        x.broken(32, true);
+        x.tick(1);
+        CHECK.due("STATE", 1, x.socket(32, 0));
+        CHECK.due("SILENT", 2, x.look(13));
+        CHECK.due("SOLD", 0, x.socket(33, 6));
     }
 
     /** A BUFFER of 25 sells nothing: CONNECTING without CREDIT FALLS with AGE 6. */

@@ -6,6 +6,7 @@ public final class LogTest {
         answers();
         byHand();
         silentAheadOfFell();
+        packets();
         keepsSixty();
         CHECK.finish();
     }
@@ -48,6 +49,26 @@ public final class LogTest {
         line(x, 2, 11, 1, 32);
         line(x, 1, 11, 2, 33);
         line(x, 0, 11, 1, 33);
+    }
+
+    private static void packets() {
+        SpaceLinks x = Check.running("cable e0 3.1;cable e7 3.2;");
+        Check.send(x, 0, 2, 5);
+        Check.send(x, 0, 99, 5);
+        Check.send(x, 0, 0, 3);
+        Check.send(x, 0, 0, 4);
+        x.tick(5);
+        line(x, 2, 12, 4, 25);
+        line(x, 1, 15, 6, 25);
+        line(x, 0, 15, 7, 39);
+        x.tick(20);
+        line(x, 1, 20, 9, 25);
+        line(x, 0, 23, 10, 25);
+        Check.send(x, 7, 1, 5, 5, 5, 5);
+        x.tick(4);
+        x.broken(39, true);
+        x.tick(5);
+        line(x, 0, 41, 8, 32);
     }
 
     private static void keepsSixty() {

@@ -53,12 +53,20 @@ public final class OrdersTest {
         Check.send(x, 0, 0, 2, 2, 0);
         x.tick(6);
         CHECK.due("off already: WRITTEN", 2, x.router(0, 10));
+        CHECK.due("off already: OFF", 0, x.socket(2, 0));
+        CHECK.due("off already: AGE", 6, x.socket(2, 1));
         Check.send(x, 0, 0, 2, 2, 1);
         x.tick(6);
         CHECK.due("ON", 1, x.socket(2, 4));
         CHECK.due("RESET, just now", 1, x.socket(2, 0));
         CHECK.due("AGE", 0, x.socket(2, 1));
         CHECK.due("WRITTEN", 3, x.router(0, 10));
+        x.tick(10);
+        Check.send(x, 0, 0, 2, 2, 1);
+        x.tick(6);
+        CHECK.due("ON already: WRITTEN", 4, x.router(0, 10));
+        CHECK.due("ON already: RUN", 5, x.socket(2, 0));
+        CHECK.due("ON already: FELL", 1, x.socket(2, 10));
         CHECK.due("PORT 7 without a CABLE", 0, ordered(0, 2, 7, 0).socket(7, 4));
         CHECK.due("PORT 1 of ROUTER 1 is another", 1, ordered(0, 2, 1, 0).socket(9, 4));
     }

@@ -16,6 +16,8 @@ public final class RoutingTest {
         outputFalls();
         inputFalls();
         stuckGoesOn();
+        stuckBehindAFall();
+        allAtOnce();
         CHECK.finish();
     }
 
@@ -172,12 +174,15 @@ public final class RoutingTest {
             x.tick(1);
             CHECK.due("FREE " + head, 0, x.input(1, 0));
             CHECK.due("no empty packet", 0, x.router(0, 8));
+            CHECK.due("no ORDER", 0, x.router(0, 11));
+            CHECK.due("not STUCK", 0, x.input(1, 2));
             CHECK.due("BUFFER", 0, x.socket(1, 7));
         }
         SpaceLinks x = Check.running(STAR + "cable 0.5 1.1;");
         Check.send(x, 0, 5);
         x.tick(6);
         CHECK.due("an empty packet at ROUTER 1", 1, x.router(1, 8));
+        CHECK.due("not STUCK at ROUTER 1", 0, x.input(9, 2));
         CHECK.due("none at ROUTER 0", 0, x.router(0, 8));
         Check.send(x, 0, 2);
         x.tick(6);
@@ -233,6 +238,11 @@ public final class RoutingTest {
         CHECK.due("to none", -1, x.input(1, 1));
         CHECK.due("from none", -1, x.input(2, 3));
         CHECK.due("owes an ERROR MARK", 1, x.socket(2, 14));
+        CHECK.due("no ORDER", 0, x.router(0, 11));
+        x.image(true);
+        x.turn(2, false);
+        CHECK.due("it FALLS: owes nothing", 0, x.socket(2, 14));
+        x.image(false);
         x.hold(1, false);
         x.tick(3);
         CHECK.due("INPUT 3 WAITS: it is owed", 0, x.input(3, 0));
@@ -269,6 +279,7 @@ public final class RoutingTest {
         x.tick(8);
         CHECK.due("the next one came", 9, x.byteOf(2, 0, 0));
         CHECK.due("CUT", 0, x.router(0, 7));
+        CHECK.due("no ORDER", 0, x.router(0, 11));
         CHECK.due("END 0 lost nothing", 0, x.endOf(0, 8));
     }
 
@@ -310,5 +321,50 @@ public final class RoutingTest {
         x.tick(1);
         CHECK.due("CUT", 1, x.router(0, 7));
         CHECK.due("nothing was sent of it: none is owed", 0, x.socket(2, 14));
+    }
+
+    /** STUCK is told of the INPUT, not of a packet: it goes on if the next one WAITS in the next TICK. */
+    private static void stuckBehindAFall() {
+        SpaceLinks x = Check.running(STAR);
+        x.hold(1, true);
+        Check.send(x, 2, 2, 0, 0, 0, 0, 0, 0, 0, 0, 0, 0, 0, 0, 0, 0, 0, 0, 0, 0, 0, 0, 0, 0, 0);
+        x.tick(24);
+        Check.send(x, 0, 2, 7);
+        Check.send(x, 0, 2, 8);
+        x.tick(6);
+        CHECK.due("ROUTED", 1, x.input(1, 0));
+        CHECK.due("STUCK", 5, x.input(1, 2));
+        x.broken(2, true);
+        x.tick(1);
+        CHECK.due("the next one WAITS", 0, x.input(1, 0));
+        CHECK.due("BUFFER", 3, x.socket(1, 7));
+        CHECK.due("STUCK", 6, x.input(1, 2));
+    }
+
+    /** Marks, wrong HEADS and ORDERS ahead all go in one TICK. */
+    private static void allAtOnce() {
+        SpaceLinks x = Check.running(STAR);
+        x.watch(200);
+        Check.send(x, 0, 5, 1);
+        Check.send(x, 0, 99);
+        Check.send(x, 0, 0, 3);
+        Check.send(x, 0, 0);
+        Check.send(x, 0, 40, 6);
+        x.tick(20);
+        CHECK.due("all WAITS", 13, x.socket(1, 7));
+        CHECK.due("STUCK", 19, x.input(1, 2));
+        x.table(0, 40, 8, true);
+        x.watch(20);
+        x.tick(2);
+        CHECK.due("CUT", 1, x.router(0, 7));
+        CHECK.due("nothing is gone yet", 13, x.socket(1, 7));
+        x.tick(1);
+        CHECK.due("LOST", 1, x.router(0, 6));
+        CHECK.due("TAKEN", 2, x.router(0, 5));
+        CHECK.due("WRITTEN", 1, x.router(0, 10));
+        CHECK.due("REFUSED", 1, x.router(0, 11));
+        CHECK.due("ROUTED", 1, x.input(1, 0));
+        CHECK.due("and sent at once", 6, x.socket(3, 9));
+        CHECK.due("the MARK is left", 1, x.socket(1, 7));
     }
 }

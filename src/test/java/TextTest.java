@@ -46,6 +46,8 @@ public final class TextTest {
         CHECK.due("TABLE of 0", 4, x.tableOf(0, 32));
         CHECK.due("text beside it", 2, Check.text(x, "cable e0 e1;table 3 94 stay 1 2 3 4 5 6 7;"));
         CHECK.due("CABLES", 3, x.look(1));
+        CHECK.due("the other TABLE of 3 stays", 256 + 128 + 2, x.tableOf(3, 95));
+        CHECK.due("the TABLE of 0 stays", 4, x.tableOf(0, 32));
         CHECK.due("TABLE of 3", 254, x.tableOf(3, 94));
     }
 
@@ -72,6 +74,8 @@ public final class TextTest {
         bad("cables e0 e1;", 1, 0);
         bad("cabl e0 e1;", 1, 0);
         bad("cablee0 e1;", 1, 0);
+        bad("cablez e0 e1;", 1, 0);
+        bad("acable e0 e1;", 1, 0);
         bad(" Cable e0 e1;", 1, 1);
         bad("cable ee0 e1;", 1, 6);
         bad("cable f0 e1;", 1, 6);

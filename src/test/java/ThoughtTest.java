@@ -21,6 +21,11 @@ public final class ThoughtTest {
         CHECK.due("not by then", -1, x.lasts(1, 2));
         CHECK.due("not at all", -1, x.lasts(5, 1));
         CHECK.due("lasts(1, 1)", 3, x.lasts(1, 1));
+        for (int k = 0; k < 20; k++) {
+            Check.send(x, 0, 1);
+        }
+        CHECK.due("lasts(1, 20)", 41, x.lasts(1, 20));
+        CHECK.due("lasts(1, 21) would come, too", -1, x.lasts(1, 21));
     }
 
     private static void lasts() {

@@ -5,6 +5,7 @@ public final class TimeTest {
     public static void main(String[] args) {
         wrong();
         passedOn();
+        passedOnByAll();
         roundAndRound();
         jumps();
         latestOnly();
@@ -54,6 +55,20 @@ public final class TimeTest {
         CHECK.due("TIME of END 0", 1, x.endOf(0, 5));
         // By 32, then 2, 3 and 4, then 10 and, back to ROUTER 0 which has it already, 11.
         CHECK.due("TIMES sent", 6, x.look(9));
+    }
+
+    private static void passedOnByAll() {
+        SpaceLinks x = Check.running("cable e0 2.4;cable e1 2.1;cable e2 2.2;cable e3 2.3;cable e5 2.5;cable e6 2.6;cable e7 2.7;");
+        x.time(0);
+        x.tick(2);
+        for (int port = 1; port <= 7; port++) {
+            CHECK.due("sent by PORT " + port, port == 4 ? 258 : 261, x.socket(16 + port, 9));
+        }
+        x.tick(1);
+        for (int e = 0; e < 8; e++) {
+            CHECK.due("TIME of END " + e, e == 4 ? 0 : 1, x.endOf(e, 5));
+        }
+        CHECK.due("TIMES sent", 7, x.look(9));
     }
 
     private static void roundAndRound() {
