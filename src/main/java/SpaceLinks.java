@@ -570,7 +570,6 @@ public final class SpaceLinks {
         void beFree() {
             mode = FREE;
             to = NONE;
-            ordering = false;
         }
 
         void keep(int c) {
@@ -976,7 +975,7 @@ public final class SpaceLinks {
             unstickSpilling();
         }
 
-        /** An ORDER may have made an INPUT SPILLING behind its place in the round: it is not STUCK in this TICK. */
+        /** An INPUT that is SPILLING as a TICK ends is not STUCK: as it was CUT, or its PORT FELL, or before. */
         private void unstickSpilling() {
             for (int s = 0; s < FIRST_END; s++) {
                 if (inputs[s].mode == SPILLING) {
@@ -1123,7 +1122,7 @@ public final class SpaceLinks {
             }
             if (waits) {
                 stick(s);
-            } else if (input.mode != ROUTED) {
+            } else if (input.mode == FREE) {
                 input.stuck = 0;
             }
         }
@@ -1235,7 +1234,6 @@ public final class SpaceLinks {
                 sides[out].owes = sides[out].sentOpen;
             }
             input.beginSpill(false);
-            input.stuck = 0;
         }
 
         private void takeIn(int e) {

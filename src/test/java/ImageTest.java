@@ -12,6 +12,8 @@ public final class ImageTest {
         notTheTape();
         goesOnAlike();
         afterAnyCalls();
+        packets();
+        partOfAnOrder();
         CHECK.finish();
     }
 
@@ -112,6 +114,51 @@ public final class ImageTest {
                 CHECK.due(name + ": answer " + k, first.get(k), next.get(k));
             }
         }
+    }
+
+    /** Packets that were RECEIVED are as they were, though others came since. */
+    private static void packets() {
+        SpaceLinks x = Check.running("cable e0 e1;");
+        for (int k = 1; k <= 7; k++) {
+            Check.send(x, 0, k, 60 + k);
+        }
+        x.tick(22);
+        x.image(true);
+        for (int k = 0; k < 6; k++) {
+            Check.send(x, 0, 9, 9, 9, 9, 9, 9);
+            x.tick(4);
+            x.turn(32, false);
+            x.turn(32, true);
+            x.tick(10);
+        }
+        CHECK.due("none is WHOLE", 0, x.packet(1, 5, 1));
+        x.image(false);
+        CHECK.due("RECEIVED", 7, x.endOf(1, 1));
+        CHECK.due("WHOLE ones", 7, x.endOf(1, 2));
+        for (int i = 0; i < 6; i++) {
+            CHECK.due("bytes of " + i, 2, x.packet(1, i, 0));
+            CHECK.due("WHOLE " + i, 1, x.packet(1, i, 1));
+            CHECK.due("TICK of " + i, 32 - 3 * i, x.packet(1, i, 2));
+            CHECK.due("byte of " + i, 7 - i, x.byteOf(1, i, 0));
+            CHECK.due("last byte of " + i, 67 - i, x.byteOf(1, i, 1));
+        }
+    }
+
+    private static void partOfAnOrder() {
+        SpaceLinks x = Check.running("cable e0 0.1;");
+        Check.send(x, 0, 0, 1, 40, 4, 1);
+        Check.send(x, 0, 0, 1, 41, 6, 0);
+        x.tick(5);
+        CHECK.due("SPILLING", 2, x.input(1, 0));
+        x.image(true);
+        x.tick(8);
+        CHECK.due("both are WRITTEN", 2, x.router(0, 10));
+        x.image(false);
+        x.tick(2);
+        CHECK.due("the first one", 260, x.tableOf(0, 40));
+        CHECK.due("WRITTEN", 1, x.router(0, 10));
+        x.tick(6);
+        CHECK.due("the second one", 6, x.tableOf(0, 41));
     }
 
     private static List<Integer> asked(SpaceLinks x) {

@@ -12,6 +12,7 @@ public final class OrdersTest {
         brokenOff();
         slowly();
         farAway();
+        spillsAtItsPlace();
         CHECK.finish();
     }
 
@@ -172,5 +173,48 @@ public final class OrdersTest {
         CHECK.due("TABLE of ROUTER 1", 260, x.tableOf(1, 50));
         CHECK.due("none of ROUTER 0", 0, x.tableOf(0, 50));
         CHECK.due("log: the INPUT", 9, x.log(0, 2));
+    }
+
+    /** INPUT 2 turns off the PORT that INPUT 1 is ROUTED to: that spills at its place in the round, or in the next one. */
+    private static void spillsAtItsPlace() {
+        SpaceLinks x = stuckInput();
+        Check.send(x, 1, 0, 2, 3, 0);
+        x.tick(5);
+        CHECK.due("TURN: INPUT 2 is ahead of 1", 2, x.router(0, 0));
+        CHECK.due("STUCK", true, x.input(1, 2) > 5);
+        x.tick(1);
+        CHECK.due("WRITTEN", 1, x.router(0, 10));
+        CHECK.due("SPILLING", 2, x.input(1, 0));
+        CHECK.due("not STUCK", 0, x.input(1, 2));
+        CHECK.due("BUFFER", 0, x.socket(1, 7));
+
+        x = stuckInput();
+        Check.send(x, 1, 1, 9);
+        Check.send(x, 1, 0, 2, 3, 0);
+        x.tick(8);
+        CHECK.due("TURN: INPUT 1 is ahead of 2", 3, x.router(0, 0));
+        CHECK.due("STUCK", true, x.input(1, 2) > 5);
+        x.tick(1);
+        CHECK.due("WRITTEN", 1, x.router(0, 10));
+        CHECK.due("SPILLING", 2, x.input(1, 0));
+        CHECK.due("not STUCK", 0, x.input(1, 2));
+        CHECK.due("BUFFER", 23, x.socket(1, 7));
+        x.tick(1);
+        CHECK.due("BUFFER", 0, x.socket(1, 7));
+    }
+
+    /** END 2 HOLDS: INPUT 1, ROUTED to PORT 3, gets nothing on. */
+    private static SpaceLinks stuckInput() {
+        SpaceLinks x = Check.running(STAR);
+        x.hold(2, true);
+        x.watch(200);
+        int[] packet = new int[100];
+        packet[0] = 3;
+        packet[1] = 2;
+        Check.send(x, 0, packet);
+        x.tick(90);
+        CHECK.due("ROUTED", 3, x.input(1, 1));
+        CHECK.due("BUFFER", 23, x.socket(1, 7));
+        return x;
     }
 }

@@ -124,6 +124,13 @@ public final class PathsTest {
         CHECK.due("SPREAD all the same", 1, x.spread(0, 40));
         CHECK.due("by its own CABLE", 1, x.loops(3, 40));
         CHECK.due("its HEAD goes", 0, x.loops(3, 41));
+        SpaceLinks ring = laid("cable 0.1 3.2;cable 3.1 2.2;cable 2.1 1.2;cable 1.1 0.2;cable e0 1.7;"
+                + "table 0 50 stay 1;table 3 50 stay 1;table 2 50 stay 1;table 1 50 stay 1 7;");
+        CHECK.due("a ring of four", 1, ring.loops(0, 50));
+        CHECK.due("the END is at its last one", 1, ring.spread(0, 50));
+        ring.table(1, 50, 128, false);
+        CHECK.due("no ring", 0, ring.loops(0, 50));
+        CHECK.due("the END is there", 1, ring.spread(0, 50));
         x.table(2, 40, 8, false);
         CHECK.due("no more", 0, x.loops(0, 40));
         CHECK.due("there and back", 0, x.loops(1, 40));

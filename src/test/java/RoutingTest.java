@@ -17,6 +17,8 @@ public final class RoutingTest {
         inputFalls();
         stuckGoesOn();
         stuckBehindAFall();
+        waitedAndLost();
+        everyPort();
         allAtOnce();
         CHECK.finish();
     }
@@ -180,7 +182,9 @@ public final class RoutingTest {
         }
         SpaceLinks x = Check.running(STAR + "cable 0.5 1.1;");
         Check.send(x, 0, 5);
-        x.tick(6);
+        x.tick(3);
+        CHECK.due("the MARK alone is sent on", 256, x.socket(5, 9));
+        x.tick(1);
         CHECK.due("an empty packet at ROUTER 1", 1, x.router(1, 8));
         CHECK.due("not STUCK at ROUTER 1", 0, x.input(9, 2));
         CHECK.due("none at ROUTER 0", 0, x.router(0, 8));
@@ -341,6 +345,20 @@ public final class RoutingTest {
         CHECK.due("STUCK", 6, x.input(1, 2));
     }
 
+    /** No TABLE any more: one that WAITED is LOST, and not STUCK. */
+    private static void waitedAndLost() {
+        SpaceLinks x = Check.running(STAR);
+        x.table(0, 40, 32, false);
+        Check.send(x, 0, 40, 1);
+        x.tick(6);
+        CHECK.due("STUCK", 5, x.input(1, 2));
+        x.table(0, 40, 0, false);
+        x.tick(1);
+        CHECK.due("LOST", 1, x.router(0, 6));
+        CHECK.due("FREE", 0, x.input(1, 0));
+        CHECK.due("not STUCK", 0, x.input(1, 2));
+    }
+
     /** Marks, wrong HEADS and ORDERS ahead all go in one TICK. */
     private static void allAtOnce() {
         SpaceLinks x = Check.running(STAR);
@@ -366,5 +384,27 @@ public final class RoutingTest {
         CHECK.due("ROUTED", 1, x.input(1, 0));
         CHECK.due("and sent at once", 6, x.socket(3, 9));
         CHECK.due("the MARK is left", 1, x.socket(1, 7));
+    }
+
+    /** Each PORT as INPUT and as the one that is MEANT, by path and by TABLE. */
+    private static void everyPort() {
+        SpaceLinks x = Check.running("cable e0 3.1;cable e1 3.2;cable e2 3.3;cable e3 3.4;cable e4 3.5;cable e5 3.6;cable e6 3.7;");
+        for (int e = 0; e < 7; e++) {
+            int port = (e + 1) % 7 + 1;
+            x.table(3, 50 + e, 1 << port, true);
+            Check.send(x, e, port, e);
+            Check.send(x, e, 50 + e, e);
+        }
+        x.tick(2);
+        for (int e = 0; e < 7; e++) {
+            CHECK.due("PORT " + (e + 1) + " is ROUTED to", (e + 1) % 7 + 1, x.input(25 + e, 1));
+        }
+        CHECK.due("TURN behind 7", 1, x.router(3, 0));
+        x.tick(10);
+        for (int e = 0; e < 7; e++) {
+            CHECK.due("END " + (e + 1) % 7 + " RECEIVED", 2, x.endOf((e + 1) % 7, 2));
+            CHECK.due("byte", e, x.byteOf((e + 1) % 7, 0, 0));
+            CHECK.due("bytes", 1, x.packet((e + 1) % 7, 0, 0));
+        }
     }
 }
