@@ -1680,7 +1680,7 @@ public final class SpaceLinks {
         }
 
         private void skipBlanks() {
-            while (reading < length && at(reading) == ' ') {
+            while (reading < length && cells[reading] == ' ') {
                 reading++;
             }
         }
