@@ -43,6 +43,9 @@ public final class PathsTest {
         CHECK.due("no CABLE", -1, x.way(5, 0, -1));
         CHECK.due("another END", -1, x.way(3, 0, -1));
         CHECK.due("another END", -1, x.way(0, 3, -1));
+        SpaceLinks y = laid("cable e0 e1;cable e2 0.1;");
+        CHECK.due("END 0 instead", -1, y.way(1, 2, -1));
+        CHECK.due("END 0 has it", -1, y.way(2, 1, -1));
         CHECK.due("spread(-1, 40)", -1, x.spread(-1, 40));
         CHECK.due("spread(4, 40)", -1, x.spread(4, 40));
         CHECK.due("spread(0, 31)", -1, x.spread(0, 31));
@@ -124,6 +127,9 @@ public final class PathsTest {
         CHECK.due("SPREAD all the same", 1, x.spread(0, 40));
         CHECK.due("by its own CABLE", 1, x.loops(3, 40));
         CHECK.due("its HEAD goes", 0, x.loops(3, 41));
+        SpaceLinks self = laid("cable 0.1 0.2;cable e0 1.1;table 0 50 stay 2;table 1 50 stay 1;");
+        CHECK.due("ROUTER 0 by itself", 1, self.loops(0, 50));
+        CHECK.due("ROUTER 1 does not", 0, self.loops(1, 50));
         SpaceLinks ring = laid("cable 0.1 3.2;cable 3.1 2.2;cable 2.1 1.2;cable 1.1 0.2;cable e0 1.7;"
                 + "table 0 50 stay 1;table 3 50 stay 1;table 2 50 stay 1;table 1 50 stay 1 7;");
         CHECK.due("a ring of four", 1, ring.loops(0, 50));

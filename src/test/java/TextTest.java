@@ -10,6 +10,8 @@ public final class TextTest {
         cables();
         tables();
         nothingIsDone();
+        cutShort();
+        full();
         answersOfFault();
         CHECK.finish();
     }
@@ -158,6 +160,37 @@ public final class TextTest {
         CHECK.due("no CABLE", 0, x.look(1));
         CHECK.due("no TABLE", 0, x.router(0, 9));
         CHECK.due("what was told badly is not told", 2, Check.text(x, "cable e0 e1;table 0 32 go 1;"));
+    }
+
+    /** What end() took away is not read. */
+    private static void cutShort() {
+        int[] lengths = {4, 5, 7, 8, 10, 11, 14, 16, 19, 22, 24};
+        int[] places = {0, 5, 7, 8, 10, 11, 13, 13, 19, 21, 24};
+        for (int k = 0; k < lengths.length; k++) {
+            SpaceLinks x = new SpaceLinks();
+            Check.text(x, "table 3 95 stay 7 6 5 4 3 2 1; cable e4 e5; cable 3.1 3.2;  ");
+            Check.tape(x, "cable e0 0.1;table 3 40 go 1  ;".chars().toArray());
+            x.end(lengths[k]);
+            CHECK.due("cut to " + lengths[k], -1, x.text());
+            CHECK.due("fault(1), cut to " + lengths[k], places[k], x.fault(1));
+        }
+        SpaceLinks x = new SpaceLinks();
+        Check.tape(x, "cable e0 0.1;table 3 40 go 12;".chars().toArray());
+        x.end(13);
+        CHECK.due("cut to a line", 1, x.text());
+    }
+
+    /** THE TAPE is full to its last byte. */
+    private static void full() {
+        good("cable e0 e1;" + " ".repeat(388), 1);
+        good(" ".repeat(388) + "cable e0 e1;", 1);
+        bad(" ".repeat(389) + "cable e0 e1", 1, 400);
+        bad(" ".repeat(390) + "cable e0 9", 2, 399);
+        bad(" ".repeat(395) + "cable", 1, 400);
+        bad(" ".repeat(396) + "cabl", 1, 396);
+        bad(" ".repeat(394) + "cable ", 1, 400);
+        bad("cable e0 e1" + " ".repeat(389), 1, 400);
+        bad("cable e" + "9".repeat(393), 2, 7);
     }
 
     private static void answersOfFault() {
