@@ -1,14 +1,60 @@
+import java.io.IOException;
+import java.io.UncheckedIOException;
 import java.nio.charset.StandardCharsets;
+import java.nio.file.Files;
+import java.nio.file.Path;
+import java.util.ArrayList;
+import java.util.List;
 
 /** What the tests share: counting wrong answers, and short ways to lay and send. */
 final class Check {
+    /** Numbers that are none of anything: far too small or too large. */
+    static final int[] FAR = {Integer.MIN_VALUE, -1000, -101, -100, -99, 1001, 4096, 65536, Integer.MAX_VALUE};
+
     private int wrong;
+    private String document;
+    private String sentence = "";
 
     void due(String call, long want, long got) {
         if (got != want) {
             wrong++;
             System.out.println(call + " answered " + got + ", due is " + want);
+            if (!sentence.isEmpty()) {
+                System.out.println("    by \"" + sentence + "\"");
+            }
         }
+    }
+
+    /** The sentence of the document by which the next answers are due: it must stand there, word by word. */
+    void sentence(String quote) {
+        sentence = quote;
+        if (document == null) {
+            document = document();
+        }
+        due("the document has these words", true, document.contains(quote));
+    }
+
+    /** The document, with one blank between two words. */
+    static String document() {
+        try {
+            return Files.readString(Path.of("../shared/DOC.md"), StandardCharsets.UTF_8).replaceAll("\\s+", " ");
+        } catch (IOException e) {
+            throw new UncheckedIOException(e);
+        }
+    }
+
+    /** What is called changes nothing of all that can be asked. */
+    void changesNothing(String name, SpaceLinks x, Runnable calls) {
+        List<Integer> before = new ArrayList<>();
+        List<Integer> behind = new ArrayList<>();
+        All.ask(x, before);
+        before.add(x.fault(0));
+        before.add(x.fault(1));
+        calls.run();
+        All.ask(x, behind);
+        behind.add(x.fault(0));
+        behind.add(x.fault(1));
+        due(name + ": all stays as it was", true, before.equals(behind));
     }
 
     void due(String call, boolean want, boolean got) {
@@ -54,6 +100,13 @@ final class Check {
     static int send(SpaceLinks x, int end, int... bytes) {
         tape(x, bytes);
         return x.send(end);
+    }
+
+    /** So many bytes, the first ones as told, the others 0. */
+    static int[] bytes(int many, int... first) {
+        int[] bytes = new int[many];
+        System.arraycopy(first, 0, bytes, 0, first.length);
+        return bytes;
     }
 
     /** A new object with these CABLES and TABLES, in RUN. */
