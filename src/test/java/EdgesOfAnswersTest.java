@@ -10,11 +10,14 @@ public final class EdgesOfAnswersTest {
     public static void main(String[] args) {
         socket();
         socketOfEachWhat();
+        socketCounts();
         buffer();
         input();
         router();
+        routerCounts();
         tableOf();
         endOf();
+        endCounts();
         packet();
         byteOf();
         way();
@@ -66,6 +69,39 @@ public final class EdgesOfAnswersTest {
         x.turn(1, false);
         CHECK.due("off", 0, x.socket(1, 4));
         CHECK.due("the other one", 32, x.socket(1, 2));
+    }
+
+    private static void socketCounts() {
+        CHECK.sentence("5 BOUGHT, 6 SOLD, 7 what is in its BUFFER, 8 QUIET, 9 what it sent in the latest TICK (NONE: nothing), 10 how often it FELL, 11 how often it was SILENT, 12 bytes and MARKS that it sent, 13 that it heard, 14 whether it owes an ERROR MARK, 15 the TIME that is to be sent (NONE), 16 how often it was SPOILED.");
+        SpaceLinks x = Check.running("cable e0 e1;");
+        x.hold(0, true);
+        Check.send(x, 0, 7, 7, 7, 7);
+        Check.send(x, 1, 8, 8, 8);
+        x.tick(4);
+        x.time(0);
+        // 32 sent 4 bytes, and heard 3 at 12, 13, 14, which it keeps; 33 heard 3 and took them.
+        int[] due = {5, 6, 33, 1, 1, 20, 21, 3, 0, 7, 0, 0, 4, 3, 0, 1, 0};
+        for (int what = 0; what < due.length; what++) {
+            CHECK.due("socket(32, " + what + ")", due[what], x.socket(32, what));
+        }
+        x.odds(1000);
+        x.tick(1);
+        x.odds(0);
+        CHECK.due("SPOILED", 1, x.socket(32, 16));
+        CHECK.due("FELL", 1, x.socket(32, 10));
+        CHECK.due("not SILENT", 0, x.socket(32, 11));
+        CHECK.due("heard before", 3, x.socket(32, 13));
+        x.tick(20);
+        x.broken(32, true);
+        x.tick(1);
+        CHECK.due("SILENT", 1, x.socket(32, 11));
+        CHECK.due("FELL", 2, x.socket(32, 10));
+        x.broken(32, false);
+        x.tick(20);
+        x.turn(32, false);
+        CHECK.due("by hand it FELL", 3, x.socket(32, 10));
+        CHECK.due("by hand it is not SILENT", 1, x.socket(32, 11));
+        CHECK.due("SPOILED once", 1, x.socket(32, 16));
     }
 
     private static void buffer() {
@@ -161,6 +197,40 @@ public final class EdgesOfAnswersTest {
         CHECK.due("all TABLES", 64, x.router(1, 9));
     }
 
+    private static void routerCounts() {
+        CHECK.sentence("Of a ROUTER what 0 TURN, 1 TIME, 2 STEPS, 3 JUMPS, 4 packets ROUTED, 5 TAKEN, 6 LOST, 7 CUT, 8 empty packets, 9 TABLES, 10 ORDERS WRITTEN, 11 REFUSED.");
+        SpaceLinks x = Check.running("cable 3.4 e0;cable 3.5 2.1;cable 2.2 e1;");
+        x.watch(5);
+        x.table(3, 32, 2, false);
+        for (int k = 0; k < 2; k++) {
+            Check.send(x, 0, 0, 1, 40 + k, 2, 0);
+        }
+        for (int k = 0; k < 3; k++) {
+            Check.send(x, 0, 0, 9);
+            Check.send(x, 0, 99, 9);
+        }
+        for (int k = 0; k < 6; k++) {
+            Check.send(x, 0, 5);
+        }
+        for (int k = 0; k < 2; k++) {
+            Check.send(x, 0, 7, 9);
+        }
+        for (int k = 0; k < 4; k++) {
+            x.time(0);
+            x.tick(2);
+        }
+        x.time(0);
+        x.time(0);
+        x.tick(92);
+        int[] due = {5, 6, 4, 1, 6, 5, 3, 2, 0, 3, 2, 3};
+        for (int what = 0; what < due.length; what++) {
+            CHECK.due("router(3, " + what + ")", due[what], x.router(3, what));
+        }
+        CHECK.due("empty packets of the next one", 6, x.router(2, 8));
+        CHECK.due("STEPS of the next one", 4, x.router(2, 2));
+        CHECK.due("none is ROUTED by that", 0, x.router(2, 4));
+    }
+
     private static void tableOf() {
         CHECK.sentence("PORTS of a TABLE (a set; 0 none), and 256 if the HEAD goes. NONE if there is none such.");
         SpaceLinks x = new SpaceLinks();
@@ -199,6 +269,41 @@ public final class EdgesOfAnswersTest {
         for (int what : Check.FAR) {
             CHECK.due("endOf(0, " + what + ")", -1, x.endOf(0, what));
         }
+    }
+
+    private static void endCounts() {
+        CHECK.sentence("Of an END what 0 what is in its QUEUE, 1 packets RECEIVED in all, 2 WHOLE ones, 3 bytes that came in of the packet that comes in, 4 whether it HOLDS, 5 TIME, 6 STEPS, 7 JUMPS, 8 packets of its QUEUE that were SPILLED.");
+        SpaceLinks x = Check.running("cable e6 e7;");
+        for (int k = 0; k < 3; k++) {
+            Check.send(x, 6, 1, 2);
+        }
+        x.tick(12);
+        Check.send(x, 6, 1, 2, 3, 4);
+        Check.send(x, 7, 1, 2, 3, 4);
+        x.tick(3);
+        x.unplug(38);
+        x.plug(38, 39);
+        x.tick(12);
+        for (int k = 0; k < 2; k++) {
+            x.time(6);
+            x.tick(2);
+        }
+        for (int jump = 0; jump < 3; jump++) {
+            x.time(6);
+            x.time(6);
+            x.tick(2);
+        }
+        Check.send(x, 6, 1, 2, 3, 4, 5, 6, 7, 8);
+        Check.send(x, 7, 1, 2, 3, 4, 5, 6, 7, 8);
+        x.tick(7);
+        x.hold(7, true);
+        // Of nine, seven were sent, and six came.
+        int[] due = {2, 4, 3, 6, 1, 8, 2, 3, 1};
+        for (int what = 0; what < due.length; what++) {
+            CHECK.due("endOf(7, " + what + ")", due[what], x.endOf(7, what));
+        }
+        CHECK.due("TIME of the other one", 8, x.endOf(6, 5));
+        CHECK.due("STEPS of the other one", 0, x.endOf(6, 6));
     }
 
     private static SpaceLinks received(int packets) {

@@ -6,6 +6,8 @@ public final class EdgesOfRoutersTest {
     private static final String ROW = "cable 0.1 e0;cable 0.3 1.1;cable 1.2 e1;";
 
     public static void main(String[] args) {
+        routersByNumber();
+        cutByPlace();
         turnAtFirst();
         turnGoesRound();
         turnOfThisTick();
@@ -30,6 +32,59 @@ public final class EdgesOfRoutersTest {
         cutAsItIsRouted();
         owesIfAByteWasSent();
         CHECK.finish();
+    }
+
+    private static void routersByNumber() {
+        CHECK.sentence("(c) ROUTERS by number: their PORTS as INPUTS");
+        SpaceLinks x = Check.running("cable 3.1 e0;cable 3.2 e1;cable 0.1 e2;cable 0.2 e3;cable 1.7 e4;cable 1.6 e5;");
+        Check.send(x, 0, 2, 9);
+        Check.send(x, 2, 2, 9);
+        Check.send(x, 3, 99, 9);
+        Check.send(x, 5, 7, 9);
+        x.tick(2);
+        int[] whats = {4, 4, 6, 4};
+        int[] sockets = {25, 14, 2, 1};
+        for (int i = 0; i < 4; i++) {
+            CHECK.due("what of line " + i, whats[i], x.log(i, 1));
+            CHECK.due("SOCKET of line " + i, sockets[i], x.log(i, 2));
+        }
+        x.tick(3);
+        // ENDS by number, behind all ROUTERS.
+        int[] ends = {36, 35, 33};
+        for (int i = 0; i < 3; i++) {
+            CHECK.due("RECEIVED, line " + i, 7, x.log(i, 1));
+            CHECK.due("END of line " + i, ends[i], x.log(i, 2));
+        }
+    }
+
+    /** One that WAITS is CUT in (c), ahead of what ENDS take; one that is ROUTED in (d), behind it. */
+    private static void cutByPlace() {
+        CHECK.sentence("STUCK of an INPUT: TICKS in which it WAITS, or is ROUTED and (in (d)) sends nothing");
+        SpaceLinks x = Check.running(FULL);
+        x.watch(5);
+        Check.send(x, 0, 2, 9);
+        Check.send(x, 4, 5, 9);
+        x.tick(2);
+        Check.send(x, 2, 4, 9);
+        x.tick(5);
+        CHECK.due("INPUT 5 WAITED for its own PORT: CUT", 5, x.log(1, 1));
+        CHECK.due("the INPUT", 5, x.log(1, 2));
+        CHECK.due("RECEIVED behind it", 7, x.log(0, 1));
+        CHECK.due("by END 3", 35, x.log(0, 2));
+
+        // END 1 HOLDS: PORT 2 sends from 13 to 36, and is STUCK from 37 on; CUT at 42.
+        SpaceLinks y = Check.running(FULL);
+        y.watch(5);
+        y.hold(1, true);
+        Check.send(y, 0, Check.bytes(60, 2));
+        y.tick(27);
+        Check.send(y, 2, 4, 9);
+        y.tick(5);
+        CHECK.due("TICK", 42, y.look(0));
+        CHECK.due("INPUT 1 was ROUTED: CUT", 5, y.log(0, 1));
+        CHECK.due("the INPUT", 1, y.log(0, 2));
+        CHECK.due("RECEIVED ahead of it", 7, y.log(1, 1));
+        CHECK.due("in the same TICK", 42, y.log(1, 0));
     }
 
     private static void turnAtFirst() {

@@ -4,6 +4,7 @@ public final class EdgesOfTicksTest {
 
     public static void main(String[] args) {
         oneMore();
+        heardByNumber();
         heardInTheNextTick();
         lowStatesHearNothing();
         quiet();
@@ -15,6 +16,7 @@ public final class EdgesOfTicksTest {
         noDrawWithoutNeed();
         lessThanOdds();
         drawWraps();
+        grownByNumber();
         silent();
         silentAndAge();
         resetAndWait();
@@ -35,6 +37,37 @@ public final class EdgesOfTicksTest {
         }
         CHECK.due("TICK", 50001, x.look(0));
         CHECK.due("AGE", 50001, x.socket(1, 1));
+    }
+
+    /** The latest lines of THE LOG, the last one first: what and SOCKET of each. */
+    private static void lines(SpaceLinks x, int[] whats, int[] sockets) {
+        for (int i = 0; i < whats.length; i++) {
+            CHECK.due("what of line " + i, whats[i], x.log(i, 1));
+            CHECK.due("SOCKET of line " + i, sockets[i], x.log(i, 2));
+            CHECK.due("TICK of line " + i, x.look(0), x.log(i, 0));
+        }
+    }
+
+    private static void heardByNumber() {
+        CHECK.sentence("(a) Each SOCKET, by number, hears");
+        SpaceLinks x = Check.running("cable e7 0.1;cable 3.7 e0;");
+        x.odds(1000);
+        x.tick(1);
+        lines(x, new int[] {1, 3, 1, 3, 1, 3, 1, 3}, new int[] {39, 39, 32, 32, 31, 31, 1, 1});
+        CHECK.due("a DRAW each", next(next(next(next(0)))), x.look(19));
+    }
+
+    private static void grownByNumber() {
+        CHECK.sentence("(b) each SOCKET, by number: is it in 4 or 5");
+        SpaceLinks x = new SpaceLinks();
+        Check.text(x, "cable e7 0.1;cable 3.7 e0;");
+        x.tick(8);
+        lines(x, new int[] {0, 0, 0, 0}, new int[] {39, 32, 31, 1});
+        x.broken(1, true);
+        x.odds(1000);
+        x.tick(1);
+        // (a) of all comes ahead of (b) of all.
+        lines(x, new int[] {1, 2, 1, 2, 1, 3, 1, 3}, new int[] {39, 39, 1, 1, 32, 32, 31, 31});
     }
 
     private static void heardInTheNextTick() {

@@ -38,6 +38,7 @@ public final class FaceTest {
             CHECK.due(inside + " is static", true, Modifier.isStatic(inside.getModifiers()));
             CHECK.due(inside + " is private", true, Modifier.isPrivate(inside.getModifiers()));
             members(inside);
+            ownNames(inside);
         }
         CHECK.due("classes", true, SpaceLinks.class.getDeclaredClasses().length < 12);
         source();
@@ -69,6 +70,15 @@ public final class FaceTest {
                     Modifier.isPrivate(field.getModifiers()));
         }
         CHECK.due("final", true, Modifier.isFinal(SpaceLinks.class.getModifiers()));
+    }
+
+    /** No method of a class inside has the name of one of the face. */
+    private static void ownNames(Class<?> inside) {
+        for (Method method : inside.getDeclaredMethods()) {
+            for (String line : FACE) {
+                CHECK.due(method + " has a name of its own", false, line.contains(" " + method.getName() + "("));
+            }
+        }
     }
 
     private static void members(Class<?> one) {

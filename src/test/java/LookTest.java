@@ -3,6 +3,7 @@ public final class LookTest {
     private static final Check CHECK = new Check();
 
     public static void main(String[] args) {
+        CHECK.sentence("What 0 TICK, 1 CABLES, 2 BROKEN ones, 3 SOCKETS in RUN, 4 WATCH, 5 packets RECEIVED in all, 6 WHOLE ones, 7 NULLS that were sent, 8 CREDITS, 9 TIMES, 10 bytes, 11 MARKS (7 to 11: by all), 12 how often SOCKETS FELL, 13 were SILENT, 14 bytes of THE TAPE, 15 what is in all BUFFERS, 16 SPOILED by all, 17 lines of THE LOG (all that came)");
         SpaceLinks x = Check.running("cable e0 0.1;cable e1 0.2;cable e2 e3;cable 3.1 3.2;");
         CHECK.due("look(-1)", -1, x.look(-1));
         CHECK.due("look(20)", -1, x.look(20));
