@@ -215,6 +215,17 @@ public final class EdgesOfRoutersTest {
         CHECK.due("ROUTER 0 has none", 0, x.router(0, 8));
         CHECK.due("ROUTED by ROUTER 1", 1, x.router(1, 4));
 
+        // END 0 breaks off behind the HEAD: all that comes to ROUTER 1 is an ERROR MARK.
+        SpaceLinks alone = Check.running(ROW);
+        Check.send(alone, 0, 3, 2, 8);
+        alone.tick(2);
+        alone.turn(32, false);
+        alone.tick(1);
+        CHECK.due("an ERROR MARK alone", 257, alone.socket(3, 9));
+        alone.tick(1);
+        CHECK.due("is an empty packet, too", 1, alone.router(1, 8));
+        CHECK.due("BUFFERS", 0, alone.look(15));
+
         SpaceLinks y = Check.running(ROW);
         y.watch(200);
         Check.send(y, 0, 3, 5);
@@ -562,6 +573,21 @@ public final class EdgesOfRoutersTest {
         CHECK.due("STUCK", 0, x.input(1, 2));
         CHECK.due("log: CUT", 5, x.log(0, 1));
         CHECK.due("log: the INPUT", 1, x.log(0, 2));
+
+        // Two in one TICK: PORT 1, to which INPUT 3 is ROUTED, has its place in (d) ahead of PORT 4.
+        SpaceLinks y = Check.running(STAR);
+        y.watch(5);
+        y.hold(0, true);
+        y.hold(3, true);
+        Check.send(y, 1, Check.bytes(60, 4));
+        Check.send(y, 2, Check.bytes(60, 1));
+        y.tick(32);
+        CHECK.due("CUT, both", 2, y.router(0, 7));
+        for (int i = 0; i < 2; i++) {
+            CHECK.due("log: TICK", 42, y.log(i, 0));
+            CHECK.due("log: CUT", 5, y.log(i, 1));
+            CHECK.due("log: the INPUT", i == 0 ? 2 : 3, y.log(i, 2));
+        }
     }
 
     private static void owesIfAByteWasSent() {

@@ -7,6 +7,7 @@ public final class EdgesOfSendingTest {
         startedSendsNull();
         connectingSendsCreditIfItMay();
         creditAtSixteen();
+        byNumber();
         timeThenCreditThenBytes();
         nothingBought();
         errorMarkFirst();
@@ -104,6 +105,27 @@ public final class EdgesOfSendingTest {
         CHECK.due("15 and 8: none", 258, y.socket(33, 9));
     }
 
+    private static void byNumber() {
+        CHECK.sentence("(d) each SOCKET, by number, sends");
+        // From END 0 to END 1: PORT 1 looks whether it may sell ahead of PORT 2, which takes from its BUFFER.
+        SpaceLinks x = Check.running(STAR);
+        Check.send(x, 0, Check.bytes(40, 2));
+        x.tick(9);
+        CHECK.due("one is in the BUFFER yet as SOLD is 16", 258, x.socket(1, 9));
+        CHECK.due("SOLD", 16, x.socket(1, 6));
+        CHECK.due("BUFFER behind the TICK", 0, x.socket(1, 7));
+        x.tick(1);
+        CHECK.due("CREDIT, one TICK later", 259, x.socket(1, 9));
+        // From END 1 to END 0: PORT 1 takes from the BUFFER of PORT 2 ahead of that.
+        SpaceLinks y = Check.running(STAR);
+        Check.send(y, 1, Check.bytes(40, 1));
+        y.tick(8);
+        CHECK.due("no CREDIT yet", 258, y.socket(2, 9));
+        y.tick(1);
+        CHECK.due("CREDIT", 259, y.socket(2, 9));
+        CHECK.due("SOLD", 24, y.socket(2, 6));
+    }
+
     private static void timeThenCreditThenBytes() {
         CHECK.sentence("5: a TIME that is to be sent; else CREDIT, if it may; else, with BOUGHT above 0,");
         SpaceLinks x = new SpaceLinks();
@@ -157,8 +179,12 @@ public final class EdgesOfSendingTest {
         x.tick(8);
         CHECK.due("CREDIT is on its way", 259, x.socket(33, 9));
         CHECK.due("owes yet", 1, x.socket(2, 14));
+        CHECK.due("bytes and MARKS that it sent", 24, x.socket(2, 12));
+        int marks = x.look(11);
         x.tick(1);
         CHECK.due("the ERROR MARK", 257, x.socket(2, 9));
+        CHECK.due("it is a MARK that it sent", 25, x.socket(2, 12));
+        CHECK.due("MARKS by all", marks + 1, x.look(11));
         CHECK.due("BOUGHT", 7, x.socket(2, 5));
         CHECK.due("owes no more", 0, x.socket(2, 14));
         x.tick(40);
@@ -398,5 +424,19 @@ public final class EdgesOfSendingTest {
         x.tick(1);
         CHECK.due("and no other one", 258, x.socket(32, 9));
         CHECK.due("TIMES", 1, x.look(9));
+
+        // PORTS 1 and 2 hear a step each in one TICK: PORT 3 is to send both, and sends the latest.
+        SpaceLinks y = Check.running(STAR);
+        y.time(0);
+        y.time(1);
+        y.time(1);
+        y.tick(2);
+        CHECK.due("STEPS of the ROUTER", 2, y.router(0, 2));
+        CHECK.due("by PORT 1", 262, y.socket(1, 9));
+        CHECK.due("by PORT 2", 261, y.socket(2, 9));
+        CHECK.due("by PORT 3, the latest", 262, y.socket(3, 9));
+        CHECK.due("none is to be sent by PORT 3", -1, y.socket(3, 15));
+        y.tick(1);
+        CHECK.due("and no other one by PORT 3", 258, y.socket(3, 9));
     }
 }

@@ -232,6 +232,7 @@ public final class EdgesOfTicksTest {
         CHECK.due("a byte: RESET", 1, x.socket(32, 0));
         CHECK.due("FELL", 2, x.socket(32, 10));
         CHECK.due("nothing came", 0, x.socket(32, 7));
+        CHECK.due("but it was heard", 1, x.socket(32, 13));
         CHECK.due("33 is still in RUN", 5, x.socket(33, 0));
 
         // PORT 2 is full of what WAITS for PORT 5; a packet with a HEAD alone goes out by it as a MARK alone.

@@ -58,6 +58,12 @@ public final class EdgesOfWaysTest {
         way(x, 0, 1, 7, 2);
         x.tick(30);
         way(x, 0, 1, 7, 2);
+        x.broken(32, true);
+        way(x, 0, 1, 7, 2);
+        way(x, 1, 0, 7, 1);
+        x.broken(33, true);
+        way(x, 0, 1, 7, 2);
+        way(x, 1, 0, 7, 1);
         x.unplug(7);
         way(x, 0, 1, 2, 2, 2, 2);
         way(x, 1, 0, 1, 1, 1, 1);
@@ -72,7 +78,11 @@ public final class EdgesOfWaysTest {
     private static void routersBetween() {
         CHECK.sentence("by ROUTERS between;");
         way(laid("cable e0 e1;"), 0, 1, NOTHING);
-        way(laid("cable e6 e7;"), 7, 6, NOTHING);
+        SpaceLinks direct = laid("cable e6 e7;");
+        way(direct, 7, 6, NOTHING);
+        direct.broken(38, true);
+        way(direct, 7, 6, NOTHING);
+        way(direct, 6, 7, NOTHING);
         way(laid("cable e0 0.1;cable 0.7 e1;"), 0, 1, 7);
         // No END is between: 1 is at its CABLE's end, as 2 is.
         SpaceLinks x = laid("cable e0 e1;cable e2 0.1;cable 0.2 e3;");
@@ -193,6 +203,9 @@ public final class EdgesOfWaysTest {
         x.broken(10, true);
         x.tick(20);
         CHECK.due("in any STATE", 32, x.spread(0, 40));
+        x.broken(37, true);
+        CHECK.due("by a CABLE to the END as it is, BROKEN", 32, x.spread(0, 40));
+        CHECK.due("from the ROUTER next to it", 32, x.spread(3, 40));
         x.table(2, 40, 0, false);
         CHECK.due("a ROUTER without a TABLE", 0, x.spread(0, 40));
         CHECK.due("behind that", 32, x.spread(3, 40));

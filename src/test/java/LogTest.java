@@ -38,6 +38,13 @@ public final class LogTest {
         CHECK.due("lines", 3, x.look(17));
         x.turn(33, true);
         CHECK.due("RESET is no line", 3, x.look(17));
+        // The document tells no order for these two: the one that was named FALLS first (NOTES.md).
+        for (int named = 32; named <= 33; named++) {
+            SpaceLinks y = Check.running("cable e0 e1;");
+            y.unplug(named);
+            line(y, 1, 10, 1, named);
+            line(y, 0, 10, 1, 65 - named);
+        }
     }
 
     private static void silentAheadOfFell() {

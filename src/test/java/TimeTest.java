@@ -10,6 +10,7 @@ public final class TimeTest {
         jumps();
         latestOnly();
         fallForgets();
+        holdsNoTime();
         CHECK.finish();
     }
 
@@ -129,5 +130,20 @@ public final class TimeTest {
         x.turn(32, true);
         x.tick(20);
         CHECK.due("none was sent", 0, x.look(9));
+    }
+
+    /** What an END HOLDS back is its BUFFER alone. */
+    private static void holdsNoTime() {
+        SpaceLinks x = Check.running("cable e0 e1;");
+        x.hold(0, true);
+        x.hold(1, true);
+        CHECK.due("one that HOLDS has the next TIME", 1, x.time(0));
+        x.tick(2);
+        CHECK.due("TIME of one that HOLDS", 1, x.endOf(1, 5));
+        CHECK.due("STEPS", 1, x.endOf(1, 6));
+        x.time(0);
+        x.time(0);
+        x.tick(2);
+        CHECK.due("JUMPS", 1, x.endOf(1, 7));
     }
 }
